@@ -1,0 +1,121 @@
+import java.util.ArrayList;
+import java.util.HashSet;
+import java.util.List;
+import java.util.Set;
+
+/** Promises 17, 18, 23 and 24: one leaf is out of a plain book, what is said more, and which saying tells. */
+public final class FitsTest {
+    private static final long MOST = 1000000000000000000L;
+    private static final int MOST_PAGES = 90;
+
+    public static void main(String[] args) {
+        List<List<long[]>> all = bruteFits();
+        for (int s = 1; s < all.size(); s++) {
+            against(s, all.get(s));
+        }
+        for (long n = 4; n < 1400000000L; n = n * 3 + n % 7) {
+            greatBook(n, 0);
+            greatBook(n, n / 4);
+            greatBook(n, (n + 1) / 2 - 1);
+        }
+        wrongInputs();
+        Run.end("FitsTest");
+    }
+
+    /** By each sum the pages and the leaf of all fits, as far as no longer book can fit. */
+    private static List<List<long[]>> bruteFits() {
+        List<List<long[]>> all = new ArrayList<>();
+        for (int s = 0; s <= MOST_PAGES * (MOST_PAGES - 5) / 2; s++) {
+            all.add(new ArrayList<>());
+        }
+        for (int n = 1; n <= MOST_PAGES; n++) {
+            for (int leaf = 0; leaf < (n + 1) / 2; leaf++) {
+                int left = 0;
+                for (int page = 1; page <= n; page++) {
+                    left += (page - 1) / 2 == leaf ? 0 : page;
+                }
+                if (left < all.size()) {
+                    all.get(left).add(new long[] {n, leaf});
+                }
+            }
+        }
+        return all;
+    }
+
+    private static long saying(long[] fit, int what) {
+        if (what == 11) {
+            return (fit[0] + 1) / 2;
+        }
+        long many = 0;
+        for (int page = 1; page <= fit[0]; page++) {
+            for (char figure : Integer.toString(page).toCharArray()) {
+                many += (page - 1) / 2 != fit[1] && (what == 10 || figure - '0' == what) ? 1 : 0;
+            }
+        }
+        return many;
+    }
+
+    private static void against(int s, List<long[]> fits) {
+        Run run = new Run().due(fits.size(), "fits", s, -1);
+        for (int i = 0; i < fits.size(); i++) {
+            run.due(fits.get(i)[0], "fits", s, i).due(fits.get(i)[1], "leaf", s, i);
+        }
+        run.noSuch("fits", s, fits.size()).noSuch("leaf", s, fits.size()).noSuch("leaf", s, -1);
+        int tells = -1;
+        for (int what = 11; what >= 0; what--) {
+            List<Long> said = new ArrayList<>();
+            for (long[] fit : fits) {
+                said.add(saying(fit, what));
+            }
+            Set<Long> unlike = new HashSet<>(said);
+            tells = unlike.size() == fits.size() ? what : tells;
+            for (long many : unlike) {
+                long alike = said.stream().filter(other -> other == many).count();
+                if (what <= 10) {
+                    run.due(alike, "said", s, what, many).due(0, "said", s, what, many + 1000);
+                }
+            }
+        }
+        run.due(tells, "tells", s).due(0, "said", s, 3, -1).due(0, "said", s, 10, Long.MAX_VALUE);
+    }
+
+    /** A sum that one fit makes has it, and all its fits make that sum. */
+    private static void greatBook(long n, long leaf) {
+        long s = left(n, leaf);
+        Run run = new Run();
+        int many = Integer.parseInt(run.answer("fits", s, -1));
+        boolean has = false;
+        long before = 0;
+        for (int i = 0; i < many; i++) {
+            long pages = Long.parseLong(run.answer("fits", s, i));
+            long out = Long.parseLong(run.answer("leaf", s, i));
+            Run.isTrue("fit " + i + " of " + s, left(pages, out) == s && out >= 0 && out < (pages + 1) / 2);
+            Run.isTrue("fits of " + s + " rise", pages * 2000000000L + out > before);
+            before = pages * 2000000000L + out;
+            has |= pages == n && out == leaf;
+        }
+        Run.isTrue("the fit " + n + ", " + leaf + " of " + s, has);
+        run.noSuch("fits", s, many).noSuch("leaf", s, many);
+    }
+
+    private static long left(long n, long leaf) {
+        long out = 2 * leaf + 1 == n ? n : 4 * leaf + 3;
+        return n * (n + 1) / 2 - out;
+    }
+
+    private static void wrongInputs() {
+        Run run = new Run();
+        for (long s : new long[] {0, -1, MOST + 1, Long.MAX_VALUE, Long.MIN_VALUE}) {
+            run.illegal("fits", s, -1).illegal("fits", s, 99).illegal("leaf", s, 0).illegal("leaf", s, -5);
+            run.illegal("said", s, 1, 1).illegal("said", s, 11, 1).illegal("said", s, -1, 1).illegal("tells", s);
+        }
+        for (long s : new long[] {1, 3, 19861, MOST}) {
+            run.noSuch("fits", s, -2).noSuch("fits", s, Integer.MIN_VALUE).noSuch("fits", s, Integer.MAX_VALUE);
+            run.noSuch("leaf", s, -1).noSuch("leaf", s, Integer.MIN_VALUE).noSuch("leaf", s, Integer.MAX_VALUE);
+            run.noSuch("said", s, 11, 0).noSuch("said", s, -1, 0).noSuch("said", s, Integer.MAX_VALUE, 0);
+        }
+        run.due(0, "fits", 1, -1).due(0, "tells", 1).due(0, "said", 1, 1, 0);
+        run.due(3, "fits", 3, -1).due(-1, "tells", 3).due(2, "said", 3, 1, 1).due(1, "said", 3, 3, 1);
+        greatBook(1414213563L, 707106780L);
+    }
+}
