@@ -744,19 +744,24 @@ public final class TornLeaves {
         }
 
         boolean has(int leaf) {
-            return leaf >= 0 && (at(bits, leaf >> 5) >>> (leaf & 31) & 1) != 0;
+            int cell = leaf >> 5;
+            return cell >= 0 && cell < bits.length && (bits[cell] >>> (leaf & 31) & 1) != 0;
         }
 
         void take(int leaf) {
-            if (leaf >= 0 && leaf < MOST_LEAVES && !has(leaf)) {
-                setAt(bits, leaf >> 5, at(bits, leaf >> 5) | 1 << (leaf & 31));
+            int cell = leaf >> 5;
+            int bit = 1 << (leaf & 31);
+            if (cell >= 0 && cell < bits.length && (bits[cell] & bit) == 0) {
+                bits[cell] |= bit;
                 many++;
             }
         }
 
         void give(int leaf) {
-            if (has(leaf)) {
-                setAt(bits, leaf >> 5, at(bits, leaf >> 5) & ~(1 << (leaf & 31)));
+            int cell = leaf >> 5;
+            int bit = 1 << (leaf & 31);
+            if (cell >= 0 && cell < bits.length && (bits[cell] & bit) != 0) {
+                bits[cell] &= ~bit;
                 many--;
             }
         }
@@ -1006,70 +1011,95 @@ public final class TornLeaves {
 
     /** The tokens of the tape's first bytes, one after another. */
     private static final class Tokens {
-        private static final int END = 0;
-        private static final int WORD = 1;
-        private static final int NUMBER = 2;
-        private static final int OTHER = 3;
+        // A sign is its own byte; what is none stands below the bytes, words stand above them.
+        static final int END = -1;
+        static final int NUMBER = -2;
+        static final int FIRST_KIND = 256;
+        static final int BY = 263;
+        static final int GONE = 264;
+        static final int COPY = 265;
+        static final int LEAD = 266;
+        static final int FIRST_VALUE = 267;
+        static final int LAST_VALUE = 270;
+        static final int NOT_WORD = 271;
+        static final int AND_WORD = 272;
+        static final int OR_WORD = 273;
+        static final int OTHER_WORD = 274;
+        // A number of five digits or more is kept as one more than this.
+        static final int MOST_FOUR = 9999;
 
         private final int[] text;
         private int length;
-        private int start;
-        private int after;
-        private int sort;
-        private int value;
+        private final int[] whats = new int[MOST_BYTES + 1];
+        private final int[] places = new int[MOST_BYTES + 1];
+        private final int[] values = new int[MOST_BYTES + 1];
+        private int many;
+        private int current;
 
         Tokens(int[] tape) {
             text = tape;
         }
 
+        private static String wordOf(int what) {
+            switch (what) {
+                case FIRST_KIND + PLAIN: return "plain";
+                case FIRST_KIND + SEWN: return "sewn";
+                case FIRST_KIND + ROMAN: return "roman";
+                case FIRST_KIND + ODD: return "odd";
+                case FIRST_KIND + EVEN: return "even";
+                case FIRST_KIND + SKIP: return "skip";
+                case FIRST_KIND + TOLD: return "told";
+                case BY: return "by";
+                case GONE: return "gone";
+                case COPY: return "copy";
+                case LEAD: return "lead";
+                case FIRST_VALUE: return "page";
+                case FIRST_VALUE + 1: return "leaf";
+                case FIRST_VALUE + 2: return "side";
+                case LAST_VALUE: return "leaves";
+                case NOT_WORD: return "not";
+                case AND_WORD: return "and";
+                default: return "or";
+            }
+        }
+
         void open(int newLength) {
             length = newLength;
-            after = 0;
-            advance();
+            many = 0;
+            current = 0;
+            int next = 0;
+            for (int place = 0; place < length; place++) {
+                if (place == next) {
+                    next = readToken(place);
+                }
+            }
+            note(END, length, 0);
+        }
+
+        private void note(int what, int place, int value) {
+            setAt(whats, many, what);
+            setAt(places, many, place);
+            setAt(values, many, value);
+            many++;
         }
 
         private int byteAt(int i) {
-            return i < length ? at(text, i) : NONE;
+            return i >= 0 && i < length && i < text.length ? text[i] : END;
         }
 
-        void advance() {
-            start = after;
-            for (int i = 0; i < MOST_BYTES && isBlank(byteAt(start)); i++) {
-                start++;
+        /** Notes what begins at a place, if it is no blank; where the next can begin. */
+        private int readToken(int place) {
+            int first = byteAt(place);
+            if (isLetter(first)) {
+                return readWord(place);
             }
-            after = start;
-            value = 0;
-            int first = byteAt(start);
-            if (first == NONE) {
-                sort = END;
-            } else if (isLetter(first)) {
-                sort = WORD;
-                passLetters();
-            } else if (isDigit(first)) {
-                sort = NUMBER;
-                passDigits();
-            } else {
-                sort = OTHER;
-                after++;
+            if (isDigit(first)) {
+                return readNumber(place);
             }
-        }
-
-        private void passLetters() {
-            for (int i = 0; i < MOST_BYTES && isLetter(byteAt(after)); i++) {
-                after++;
+            if (first != 32 && first != 10) {
+                note(first, place, 0);
             }
-        }
-
-        private void passDigits() {
-            for (int i = 0; i < MOST_BYTES && isDigit(byteAt(after)); i++) {
-                // More digits than four are too many whatever they are.
-                value = i < 4 ? 10 * value + byteAt(after) - '0' : value;
-                after++;
-            }
-        }
-
-        private static boolean isBlank(int b) {
-            return b == 32 || b == 10;
+            return place + 1;
         }
 
         private static boolean isLetter(int b) {
@@ -1080,44 +1110,60 @@ public final class TornLeaves {
             return b >= '0' && b <= '9';
         }
 
-        int place() {
-            return start;
+        private int readWord(int place) {
+            int end = place;
+            for (int i = place; i < length && isLetter(byteAt(i)); i++) {
+                end = i + 1;
+            }
+            int what = FIRST_KIND;
+            for (int i = FIRST_KIND; i < OTHER_WORD && !isWord(wordOf(what), place, end); i++) {
+                what++;
+            }
+            note(what, place, 0);
+            return end;
         }
 
-        int numberValue() {
-            return value;
-        }
-
-        boolean isEnd() {
-            return sort == END;
-        }
-
-        boolean isNumber() {
-            return sort == NUMBER;
-        }
-
-        boolean isTooLong() {
-            return after - start > 4;
-        }
-
-        boolean isAnyWord() {
-            return sort == WORD;
-        }
-
-        boolean isSign(char sign) {
-            return sort == OTHER && byteAt(start) == sign;
-        }
-
-        boolean isWord(String word) {
-            if (sort != WORD || after - start != word.length()) {
+        private boolean isWord(String word, int place, int end) {
+            if (end - place != word.length()) {
                 return false;
             }
             for (int i = 0; i < word.length(); i++) {
-                if (byteAt(start + i) != word.charAt(i)) {
+                if (byteAt(place + i) != word.charAt(i)) {
                     return false;
                 }
             }
             return true;
+        }
+
+        private int readNumber(int place) {
+            int end = place;
+            int value = 0;
+            for (int i = place; i < length && isDigit(byteAt(i)); i++) {
+                value = i - place >= 4 ? MOST_FOUR + 1 : 10 * value + byteAt(i) - '0';
+                end = i + 1;
+            }
+            note(NUMBER, place, value);
+            return end;
+        }
+
+        void advance() {
+            current++;
+        }
+
+        int what() {
+            return current >= 0 && current < whats.length ? whats[current] : END;
+        }
+
+        boolean is(int what) {
+            return current >= 0 && current < whats.length && whats[current] == what;
+        }
+
+        int place() {
+            return at(places, current);
+        }
+
+        int numberTold() {
+            return current >= 0 && current < values.length ? values[current] : 0;
         }
     }
 
@@ -1139,7 +1185,7 @@ public final class TornLeaves {
             found = 0;
             into.clear();
             tokens.open(length);
-            for (int i = 0; i <= MOST_BYTES && found == 0 && !tokens.isEnd(); i++) {
+            for (int i = 0; i <= MOST_BYTES && found == 0 && !tokens.is(Tokens.END); i++) {
                 if (readLine(into)) {
                     readSign(';');
                 }
@@ -1153,7 +1199,7 @@ public final class TornLeaves {
         }
 
         private boolean readSign(char sign) {
-            if (!tokens.isSign(sign)) {
+            if (!tokens.is(sign)) {
                 return refuse(1);
             }
             tokens.advance();
@@ -1161,42 +1207,17 @@ public final class TornLeaves {
         }
 
         private boolean readLine(Shelf into) {
-            if (tokens.isWord("gone")) {
-                return readGone(into);
-            }
-            if (tokens.isWord("copy")) {
-                return readCopy(into);
-            }
-            if (tokens.isWord("lead")) {
-                return readLead(into);
-            }
-            return readBook(into);
-        }
-
-        private int kindTold() {
-            for (int kind = PLAIN; kind <= TOLD; kind++) {
-                if (tokens.isWord(kindName(kind))) {
-                    return kind;
-                }
-            }
-            return NONE;
-        }
-
-        private static String kindName(int kind) {
-            switch (kind) {
-                case PLAIN: return "plain";
-                case SEWN: return "sewn";
-                case ROMAN: return "roman";
-                case ODD: return "odd";
-                case EVEN: return "even";
-                case SKIP: return "skip";
-                default: return "told";
+            switch (tokens.what()) {
+                case Tokens.GONE: return readGone(into);
+                case Tokens.COPY: return readCopy(into);
+                case Tokens.LEAD: return readLead(into);
+                default: return readBook(into);
             }
         }
 
         private boolean readBook(Shelf into) {
-            int kind = kindTold();
-            if (kind == NONE) {
+            int kind = tokens.what() - Tokens.FIRST_KIND;
+            if (kind < PLAIN || kind > TOLD) {
                 return refuse(1);
             }
             Book book = into.nextBook(kind);
@@ -1207,39 +1228,10 @@ public final class TornLeaves {
             if (!readMark(book) || !readLeafCount(book)) {
                 return false;
             }
-            return kind != TOLD || readRule(into, book);
-        }
-
-        private boolean readMark(Book book) {
-            if (book.kind != ROMAN && book.kind != SKIP) {
+            if (kind != TOLD) {
                 return true;
             }
-            book.mark = tokens.numberValue();
-            return book.kind == ROMAN ? readWithin(0, 99) : readWithin(1, 9);
-        }
-
-        private boolean readLeafCount(Book book) {
-            int leaves = tokens.numberValue();
-            if (book.kind == SEWN && tokens.isNumber() && leaves % 2 != 0) {
-                return refuse(2);
-            }
-            book.leaves = leaves;
-            return readWithin(1, MOST_LEAVES);
-        }
-
-        private boolean readWithin(int least, int most) {
-            if (!tokens.isNumber()) {
-                return refuse(1);
-            }
-            if (tokens.isTooLong() || tokens.numberValue() < least || tokens.numberValue() > most) {
-                return refuse(2);
-            }
-            tokens.advance();
-            return true;
-        }
-
-        private boolean readRule(Shelf into, Book book) {
-            if (!tokens.isWord("by")) {
+            if (!tokens.is(Tokens.BY)) {
                 return refuse(1);
             }
             tokens.advance();
@@ -1249,19 +1241,46 @@ public final class TornLeaves {
             return read;
         }
 
+        private boolean readMark(Book book) {
+            if (book.kind != ROMAN && book.kind != SKIP) {
+                return true;
+            }
+            book.mark = tokens.numberTold();
+            return book.kind == ROMAN ? readWithin(0, 99) : readWithin(1, 9);
+        }
+
+        private boolean readLeafCount(Book book) {
+            book.leaves = tokens.numberTold();
+            if (book.kind == SEWN && book.leaves % 2 != 0) {
+                return refuse(2);
+            }
+            return readWithin(1, MOST_LEAVES);
+        }
+
+        private boolean readWithin(int least, int most) {
+            if (!tokens.is(Tokens.NUMBER)) {
+                return refuse(1);
+            }
+            if (tokens.numberTold() < least || tokens.numberTold() > most) {
+                return refuse(2);
+            }
+            tokens.advance();
+            return true;
+        }
+
         private int readBookIndex(Shelf into) {
-            int index = NONE;
-            if (!tokens.isNumber()) {
+            int index = tokens.numberTold();
+            if (!tokens.is(Tokens.NUMBER)) {
                 refuse(1);
-            } else if (tokens.isTooLong()) {
+            } else if (index > Tokens.MOST_FOUR) {
                 refuse(2);
-            } else if (into.bookAt(tokens.numberValue()) == null) {
+            } else if (into.bookAt(index) == null) {
                 refuse(3);
             } else {
-                index = tokens.numberValue();
                 tokens.advance();
+                return index;
             }
-            return index;
+            return NONE;
         }
 
         private boolean readGone(Shelf into) {
@@ -1284,7 +1303,7 @@ public final class TornLeaves {
         }
 
         private boolean readLeaves(Book book, LeafSet set, int most) {
-            for (int i = 0; i <= MOST_BYTES && tokens.isNumber(); i++) {
+            for (int i = 0; i <= MOST_BYTES && tokens.is(Tokens.NUMBER); i++) {
                 if (!readLeaf(book, set, most)) {
                     return false;
                 }
@@ -1293,11 +1312,11 @@ public final class TornLeaves {
         }
 
         private boolean readLeaf(Book book, LeafSet set, int most) {
-            int leaf = tokens.numberValue();
-            if (!tokens.isNumber()) {
+            int leaf = tokens.numberTold();
+            if (!tokens.is(Tokens.NUMBER)) {
                 return refuse(1);
             }
-            if (tokens.isTooLong() || set.size() >= most) {
+            if (leaf > Tokens.MOST_FOUR || set.size() >= most) {
                 return refuse(2);
             }
             if (!book.hasLeaf(leaf)) {
@@ -1318,8 +1337,8 @@ public final class TornLeaves {
             into.leadTold = true;
             tokens.advance();
             for (int figure = 0; figure < FIGURES; figure++) {
-                into.tellLead(figure, tokens.numberValue());
-                if (!readWithin(0, 9999)) {
+                into.tellLead(figure, tokens.numberTold());
+                if (!readWithin(0, Tokens.MOST_FOUR)) {
                     return false;
                 }
             }
@@ -1328,11 +1347,11 @@ public final class TornLeaves {
 
         private boolean readOr(Shelf into, int within) {
             if (within >= MOST_WITHIN) {
-                boolean canStand = tokens.isNumber() || tokens.isAnyWord() || tokens.isSign('(');
-                return refuse(canStand ? 2 : 1);
+                int what = tokens.what();
+                return refuse(what == Tokens.NUMBER || what == '(' || what >= Tokens.FIRST_KIND ? 2 : 1);
             }
             boolean read = readAnd(into, within);
-            for (int i = 0; i <= MOST_BYTES && read && tokens.isWord("or"); i++) {
+            for (int i = 0; i <= MOST_BYTES && read && tokens.is(Tokens.OR_WORD); i++) {
                 tokens.advance();
                 read = readAnd(into, within);
                 into.write(OR);
@@ -1342,7 +1361,7 @@ public final class TornLeaves {
 
         private boolean readAnd(Shelf into, int within) {
             boolean read = readNot(into, within);
-            for (int i = 0; i <= MOST_BYTES && read && tokens.isWord("and"); i++) {
+            for (int i = 0; i <= MOST_BYTES && read && tokens.is(Tokens.AND_WORD); i++) {
                 tokens.advance();
                 read = readNot(into, within);
                 into.write(AND);
@@ -1352,12 +1371,12 @@ public final class TornLeaves {
 
         private boolean readNot(Shelf into, int within) {
             int nots = 0;
-            for (int i = 0; i <= MOST_NOTS && tokens.isWord("not"); i++) {
-                if (nots == MOST_NOTS) {
-                    return refuse(2);
-                }
+            for (int i = 0; i < MOST_NOTS && tokens.is(Tokens.NOT_WORD); i++) {
                 nots++;
                 tokens.advance();
+            }
+            if (nots == MOST_NOTS && tokens.is(Tokens.NOT_WORD)) {
+                return refuse(2);
             }
             boolean read = readTest(into, within);
             for (int i = 0; i < nots; i++) {
@@ -1368,8 +1387,8 @@ public final class TornLeaves {
 
         private boolean readTest(Shelf into, int within) {
             boolean read = readSum(into, within);
-            boolean less = tokens.isSign('<');
-            if (read && (less || tokens.isSign('='))) {
+            boolean less = tokens.is('<');
+            if (read && (less || tokens.is('='))) {
                 tokens.advance();
                 read = readSum(into, within);
                 into.write(less ? LESS : SAME);
@@ -1379,8 +1398,8 @@ public final class TornLeaves {
 
         private boolean readSum(Shelf into, int within) {
             boolean read = readProduct(into, within);
-            for (int i = 0; i <= MOST_BYTES && read && (tokens.isSign('+') || tokens.isSign('-')); i++) {
-                int op = tokens.isSign('+') ? PLUS : MINUS;
+            for (int i = 0; i <= MOST_BYTES && read && (tokens.is('+') || tokens.is('-')); i++) {
+                int op = tokens.is('+') ? PLUS : MINUS;
                 tokens.advance();
                 read = readProduct(into, within);
                 into.write(op);
@@ -1390,8 +1409,8 @@ public final class TornLeaves {
 
         private boolean readProduct(Shelf into, int within) {
             boolean read = readPart(into, within);
-            for (int i = 0; i <= MOST_BYTES && read && (tokens.isSign('*') || tokens.isSign('/')); i++) {
-                int op = tokens.isSign('*') ? TIMES : OVER;
+            for (int i = 0; i <= MOST_BYTES && read && (tokens.is('*') || tokens.is('/')); i++) {
+                int op = tokens.is('*') ? TIMES : OVER;
                 tokens.advance();
                 read = readPart(into, within);
                 into.write(op);
@@ -1400,29 +1419,22 @@ public final class TornLeaves {
         }
 
         private boolean readPart(Shelf into, int within) {
-            if (tokens.isSign('(')) {
+            int what = tokens.what();
+            if (what == '(') {
                 tokens.advance();
                 return readOr(into, within + 1) && readSign(')');
             }
-            if (tokens.isAnyWord()) {
-                return readValue(into);
+            if (what == Tokens.NUMBER) {
+                into.write(tokens.numberTold());
+                return readWithin(0, Tokens.MOST_FOUR);
             }
-            into.write(tokens.numberValue());
-            return readWithin(0, 9999);
-        }
-
-        private boolean readValue(Shelf into) {
-            if (tokens.isWord("page")) {
-                into.write(PUT_PAGE);
-            } else if (tokens.isWord("leaf")) {
-                into.write(PUT_LEAF);
-            } else if (tokens.isWord("side")) {
-                into.write(PUT_SIDE);
-            } else if (tokens.isWord("leaves")) {
-                into.write(PUT_LEAVES);
-            } else {
+            if (what < Tokens.FIRST_KIND) {
+                return refuse(1);
+            }
+            if (what < Tokens.FIRST_VALUE || what > Tokens.LAST_VALUE) {
                 return refuse(3);
             }
+            into.write(PUT_PAGE - (what - Tokens.FIRST_VALUE));
             tokens.advance();
             return true;
         }
