@@ -1091,7 +1091,9 @@ public final class TornLeaves {
         private int readToken(int place) {
             int first = byteAt(place);
             if (isLetter(first)) {
-                return readWord(place);
+                int end = endOfWord(place);
+                note(whatWord(place, end), place, 0);
+                return end;
             }
             if (isDigit(first)) {
                 return readNumber(place);
@@ -1110,17 +1112,22 @@ public final class TornLeaves {
             return b >= '0' && b <= '9';
         }
 
-        private int readWord(int place) {
-            int end = place;
-            for (int i = place; i < length && isLetter(byteAt(i)); i++) {
-                end = i + 1;
+        private int endOfWord(int place) {
+            for (int i = place; i < length; i++) {
+                if (!isLetter(byteAt(i))) {
+                    return i;
+                }
             }
-            int what = FIRST_KIND;
-            for (int i = FIRST_KIND; i < OTHER_WORD && !isWord(wordOf(what), place, end); i++) {
-                what++;
+            return length;
+        }
+
+        private int whatWord(int place, int end) {
+            for (int what = FIRST_KIND; what < OTHER_WORD; what++) {
+                if (isWord(wordOf(what), place, end)) {
+                    return what;
+                }
             }
-            note(what, place, 0);
-            return end;
+            return OTHER_WORD;
         }
 
         private boolean isWord(String word, int place, int end) {
@@ -1820,7 +1827,7 @@ public final class TornLeaves {
 
         /** Whether one child may have so much: what is left over is shared among the others at best evenly. */
         private boolean canBeBetter(int most) {
-            return children > 1 && most - (total - most) / (children - 1) < bestSpread;
+            return bestSpread > 0 && children > 1 && most - (total - most) / (children - 1) < bestSpread;
         }
 
         private void keepIfBetter() {

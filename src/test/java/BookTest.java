@@ -95,6 +95,7 @@ public final class BookTest {
         told.due(4000L * 99999, "sum", 0).due(20000, "figures", 0, 9).due(20000, "figures", 0, 10);
         told.due(1, "page", 0, 99999).due(-1, "page", 0, 100000).due(3999, "page", 1, 99975).due(0, "number", 1, 4000);
         told.due(0, "index", 0, 99999).due(-1, "index", 1, 100000).due(0, "index", 1, 99975).due(-1, "index", 1, 26);
+        told.due(25, "number", 1, 1).due(99975, "number", 1, 3999).due(99999, "number", 0, 4000).due(50, "number", 1, 2);
         told.noSuch("number", 0, 4001).noSuch("isThere", 1, 2000).due(1, "isThere", 1, 1999);
     }
 

@@ -114,6 +114,9 @@ public final class FitsTest {
             run.noSuch("leaf", s, -1).noSuch("leaf", s, Integer.MIN_VALUE).noSuch("leaf", s, Integer.MAX_VALUE);
             run.noSuch("said", s, 11, 0).noSuch("said", s, -1, 0).noSuch("said", s, Integer.MAX_VALUE, 0);
         }
+        // Each call looks at its own sum, whatever was asked before.
+        new Run().due(9, "leaf", 19861, 0).due(1, "leaf", 3, 2).due(59, "leaf", 19861, 1).noSuch("leaf", 1, 0);
+        new Run().due(1, "said", 3, 3, 1).due(0, "said", 1, 3, 1).due(1, "said", 3, 3, 1).due(-1, "tells", 3).due(0, "tells", 1);
         run.due(0, "fits", 1, -1).due(0, "tells", 1).due(0, "said", 1, 1, 0);
         run.due(3, "fits", 3, -1).due(-1, "tells", 3).due(2, "said", 3, 1, 1).due(1, "said", 3, 3, 1);
         greatBook(1414213563L, 707106780L);

@@ -127,6 +127,11 @@ public final class SeveralTest {
                 }
             }
         }
+        // Half of the leaves, in the middle of what they can add up to, are the most ways.
+        for (int k = leaves / 2; k <= (leaves + 1) / 2; k++) {
+            int middle = k * (leaves - 1) / 2;
+            run.due(ways[k][middle], "ways", leaves * (2L * leaves + 1) - 3L * k - 4L * middle, k, leaves);
+        }
     }
 
     private static void greatSums() {

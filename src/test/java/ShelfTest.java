@@ -128,6 +128,26 @@ public final class ShelfTest {
         new Run().fault(3, 13, "plain 3;copy 1;").fault(3, 13, "plain 3;copy 9999;").fault(3, 15, "plain 3;gone 0 3;");
         new Run().fault(3, 17, "plain 3;gone 0 1 3;").fault(3, 15, "plain 3;copy 0 3;").fault(0, -1, "plain 3;gone 0 2;");
         new Run().fault(3, 10, "told 3 by pages;").fault(3, 10, "told 3 by or 1;").fault(3, 10, "told 3 by by;");
+        for (char letter = 'a'; letter <= 'z'; letter++) {
+            new Run().fault(3, 10, "told 3 by " + letter + ";").fault(3, 12, "told 3 by 1+pag" + letter + "e;");
+            new Run().fault(1, 7, "told 3 " + letter + ";").fault(1, 0, "" + letter);
+        }
+        for (String word : new String[] {"page", "leaf", "side", "leaves", "not 1", "1 and 1", "1 or 1"}) {
+            Run.of("told 3 by " + word + ";");
+        }
+        for (String word : new String[] {"qage", "pagf", "meaf", "tide", "meaves", "leavet", "leave", "nou 1", "oot 1"}) {
+            new Run().fault(3, 10, "told 3 by " + word + ";");
+        }
+        for (String word : new String[] {"bnd", "ane", "pr", "os", "o", "an", "ando", "orr"}) {
+            new Run().fault(1, 12, "told 3 by 1 " + word + " 1;");
+        }
+        for (String word : new String[] {"qlain 2", "tewn 2", "soman 2 2", "pdd 2", "fven 2", "tkip 2 2", "uold 2 by 1", "lead"}) {
+            new Run().fault(1, word.equals("lead") ? 4 : 0, word);
+        }
+        new Run().fault(1, 8, "plain 3;hone 0 1;").fault(1, 8, "plain 3;dopy 0 1;").fault(1, 0, "mead 1 2 3 4 5 6 7 8 9 0;");
+        new Run().fault(1, 7, "told 3 cy 1;").fault(1, 7, "told 3 bz 1;");
+        new Run().fault(1, 10, "told 3 by `;").fault(1, 10, "told 3 by {;").fault(1, 10, "told 3 by A;").fault(1, 10, "told 3 by Z;");
+        new Run().fault(1, 6, "plain /;").fault(1, 6, "plain :;").fault(1, 11, "told 3 by 1:;").fault(1, 11, "told 3 by 1>;");
         new Run().fault(3, 14, "told 3 by 1 + not 1;").fault(3, 14, "told 3 by 1 + plain;").fault(3, 14, "told 3 by 1 * and;");
     }
 
@@ -239,6 +259,7 @@ public final class ShelfTest {
         new Run().fault(2, 16, "told 2 by ((((((page))))));");
         new Run().fault(2, 16, "told 2 by ((((((pages))))));");
         new Run().fault(2, 16, "told 2 by ((((((not 1))))));");
+        new Run().fault(2, 16, "told 2 by ((((((plain").fault(2, 16, "told 2 by ((((((or").fault(2, 16, "told 2 by ((((((x");
         new Run().fault(2, 16, "told 2 by (((((((1)))))));");
         new Run().fault(2, 16, "told 2 by ((((((12345))))));");
         new Run().fault(1, 16, "told 2 by (((((()))))));");

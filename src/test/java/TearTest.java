@@ -7,6 +7,7 @@ public final class TearTest {
         sheets();
         puttingBack();
         mostGone();
+        allGone();
         seeds();
         seedsRefused();
         images();
@@ -59,6 +60,18 @@ public final class TearTest {
         run.due(3, "count", 6).due(1, "tear", 1, 0).due(1, "put").due(1, "put").due(59, "book", 0, 2);
         run.due(-1, "sheet", 0, 60).due(-1, "seed", 0, 1, 2).due(1, "put").due(60, "sheet", 0, 60).due(5, "count", 6);
         run.due(58, "count", 2).due(2, "put").due(58, "book", 0, 2);
+    }
+
+    private static void allGone() {
+        Run run = Run.of("plain 60;odd 61;even 99;plain 60;skip 3 60;plain 1999;");
+        for (int book = 0; book < 6; book++) {
+            run.due(60, "seed", book, book, 60).due(-1, "seed", book, book, 1);
+        }
+        run.due(360, "count", 2).due(6, "count", 6).due(0, "sum", 0).due(0, "sum", 4);
+        for (int left = 359; left >= 0; left--) {
+            run.due(1, "put").due(left % 60, "book", left / 60, 2);
+        }
+        run.due(-1, "put").due(60 * 121, "sum", 0).due(122 * 122, "sum", 1).due(1999 * 3999, "sum", 5);
     }
 
     private static void seeds() {
