@@ -1816,13 +1816,19 @@ public final class TornLeaves {
             }
             int tried = Math.min(begun + 1, children);
             for (int child = 0; child < tried; child++) {
-                setAt(row, place, child);
-                setAt(hand, child, at(hand, child) + at(worth, place));
-                if (canBeBetter(at(hand, child))) {
-                    deal(place + 1, child == begun ? begun + 1 : begun);
-                }
-                setAt(hand, child, at(hand, child) - at(worth, place));
+                dealTo(child, place, begun);
             }
+        }
+
+        private void dealTo(int child, int place, int begun) {
+            int before = at(hand, child);
+            int after = before + at(worth, place);
+            setAt(row, place, child);
+            setAt(hand, child, after);
+            if (canBeBetter(after)) {
+                deal(place + 1, child == begun ? begun + 1 : begun);
+            }
+            setAt(hand, child, before);
         }
 
         /** Whether one child may have so much: what is left over is shared among the others at best evenly. */
@@ -1895,12 +1901,16 @@ public final class TornLeaves {
                 return out == 0;
             }
             for (int i = from; i < many; i++) {
-                setAt(row, place, i);
-                if (at(worth, i) <= out && pick(size, place + 1, i + 1, out - at(worth, i))) {
+                if (pickWith(i, size, place, out)) {
                     return true;
                 }
             }
             return false;
+        }
+
+        private boolean pickWith(int i, int size, int place, long out) {
+            setAt(row, place, i);
+            return at(worth, i) <= out && pick(size, place + 1, i + 1, out - at(worth, i));
         }
     }
 }

@@ -166,6 +166,7 @@ public final class LanguageTest {
 
         private void note(String called) {
             if (!within.isEmpty()) {
+                Run.isTrue(called + " doesn't call itself but through another", !called.equals(within.peek()));
                 calls.computeIfAbsent(within.peek(), name -> new HashSet<>()).add(called);
             }
         }
