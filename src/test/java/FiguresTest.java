@@ -16,7 +16,7 @@ public final class FiguresTest {
     }
 
     private static void standing(int f) {
-        Run run = new Run();
+        Run run = Run.free();
         int n = 0;
         for (int number = 1; number <= 3000; number++) {
             boolean without = Integer.toString(number).indexOf('0' + f) < 0;
@@ -29,7 +29,7 @@ public final class FiguresTest {
     }
 
     private static void standingFar(int f) {
-        Run run = new Run();
+        Run run = Run.free();
         for (long n = 5; n <= MOST; n = n * 7 + f) {
             String nines = Long.toString(n, 9);
             StringBuilder number = new StringBuilder();
@@ -62,7 +62,7 @@ public final class FiguresTest {
     }
 
     private static void between(int figure) {
-        Run run = new Run();
+        Run run = Run.free();
         for (int a = 1; a <= 1300; a += a < 120 ? 7 : 131) {
             int many = 0;
             for (int b = a; b <= 2300; b++) {
@@ -75,7 +75,7 @@ public final class FiguresTest {
     }
 
     private static void betweenFar(int figure) {
-        Run run = new Run();
+        Run run = Run.free();
         for (long a = 1; a < MOST; a = a * 11 + 9) {
             int many = 0;
             for (long b = a; b < a + 40; b++) {
@@ -93,7 +93,7 @@ public final class FiguresTest {
     }
 
     private static void wrongInputs() {
-        Run run = new Run();
+        Run run = Run.free();
         for (int f : new int[] {0, 10, -1, Integer.MAX_VALUE, Integer.MIN_VALUE}) {
             run.illegal("skip", f, 5, false).illegal("skip", f, 5, true);
         }

@@ -56,7 +56,7 @@ public final class FitsTest {
     }
 
     private static void against(int s, List<long[]> fits) {
-        Run run = new Run().due(fits.size(), "fits", s, -1);
+        Run run = Run.free().due(fits.size(), "fits", s, -1);
         for (int i = 0; i < fits.size(); i++) {
             run.due(fits.get(i)[0], "fits", s, i).due(fits.get(i)[1], "leaf", s, i);
         }
@@ -82,7 +82,7 @@ public final class FitsTest {
     /** A sum that one fit makes has it, and all its fits make that sum. */
     private static void greatBook(long n, long leaf) {
         long s = left(n, leaf);
-        Run run = new Run();
+        Run run = Run.free();
         int many = Integer.parseInt(run.answer("fits", s, -1));
         boolean has = false;
         long before = 0;
@@ -104,7 +104,7 @@ public final class FitsTest {
     }
 
     private static void wrongInputs() {
-        Run run = new Run();
+        Run run = Run.free();
         for (long s : new long[] {0, -1, MOST + 1, Long.MAX_VALUE, Long.MIN_VALUE}) {
             run.illegal("fits", s, -1).illegal("fits", s, 99).illegal("leaf", s, 0).illegal("leaf", s, -5);
             run.illegal("said", s, 1, 1).illegal("said", s, 11, 1).illegal("said", s, -1, 1).illegal("tells", s);
@@ -115,8 +115,8 @@ public final class FitsTest {
             run.noSuch("said", s, 11, 0).noSuch("said", s, -1, 0).noSuch("said", s, Integer.MAX_VALUE, 0);
         }
         // Each call looks at its own sum, whatever was asked before.
-        new Run().due(9, "leaf", 19861, 0).due(1, "leaf", 3, 2).due(59, "leaf", 19861, 1).noSuch("leaf", 1, 0);
-        new Run().due(1, "said", 3, 3, 1).due(0, "said", 1, 3, 1).due(1, "said", 3, 3, 1).due(-1, "tells", 3).due(0, "tells", 1);
+        Run.free().due(9, "leaf", 19861, 0).due(1, "leaf", 3, 2).due(59, "leaf", 19861, 1).noSuch("leaf", 1, 0);
+        Run.free().due(1, "said", 3, 3, 1).due(0, "said", 1, 3, 1).due(1, "said", 3, 3, 1).due(-1, "tells", 3).due(0, "tells", 1);
         run.due(0, "fits", 1, -1).due(0, "tells", 1).due(0, "said", 1, 1, 0);
         run.due(3, "fits", 3, -1).due(-1, "tells", 3).due(2, "said", 3, 1, 1).due(1, "said", 3, 3, 1);
         greatBook(1414213563L, 707106780L);

@@ -10,8 +10,8 @@ public final class ModelTest {
     private static int answered = 0;
 
     public static void main(String[] args) {
-        for (int seed = 0; seed < 400; seed++) {
-            run(new Random(seed), 512);
+        for (int seed = 0; seed < 900; seed++) {
+            run(new Random(seed), 220);
         }
         for (int seed = 0; seed < 6000; seed++) {
             texts(new Random(1000 + seed));

@@ -15,12 +15,12 @@ public final class RoomTest {
         // 40000 elements of up to 8 bytes; the room holds 7.3 million.
         Run.isTrue("a new object takes " + object + " bytes", object < 200000);
         before = made();
-        for (int i = 0; i < 20; i++) {
+        for (int i = 0; i < 8; i++) {
             oneOfEach(x);
         }
         long calls = made() - before;
         // Beside what calls that answer make (nothing) there are the exceptions of one call each round.
-        Run.isTrue("calls take " + calls + " bytes", calls < 20 * 1000);
+        Run.isTrue("calls take " + calls + " bytes", calls < 8 * 1000);
         Run.isTrue("calls were made", answers != 0);
         System.out.println("a new object: " + object + " bytes; calls: " + calls + " bytes");
         Run.end("RoomTest");

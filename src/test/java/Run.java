@@ -1,21 +1,61 @@
+import java.io.IOException;
+import java.io.UncheckedIOException;
 import java.lang.reflect.InvocationTargetException;
 import java.lang.reflect.Method;
+import java.nio.file.Files;
+import java.nio.file.Path;
 import java.util.Arrays;
 import java.util.NoSuchElementException;
 
 /** A run of calls on a new object, each with the answer that is due; calls are made by name, so that each can be printed. */
 final class Run {
+    // What an object answers to later calls is free, so no test leans on it.
+    private static final int MOST_CALLS = 512;
+    private static final String DOCUMENT = wordsOf(readDocument());
+    private static String sentence = "";
+    private static int sentences = 0;
     private static int wrong = 0;
     private static int made = 0;
 
-    final Object x;
+    private Object x;
+    private int calls = 0;
+    private final boolean renewed;
 
     Run() {
         this(new TornLeaves());
     }
 
     Run(Object x) {
+        this(x, false);
+    }
+
+    private Run(Object x, boolean renewed) {
         this.x = x;
+        this.renewed = renewed;
+    }
+
+    /** Any number of calls that lean on nothing but their arguments: each 512 of them on a new object. */
+    static Run free() {
+        return new Run(new TornLeaves(), true);
+    }
+
+    /** What follows is about a sentence of the document, told in the document's own words. */
+    static void about(String told) {
+        sentence = told;
+        sentences++;
+        isTrue("the document says so", DOCUMENT.contains(wordsOf(told)));
+    }
+
+    private static String readDocument() {
+        try {
+            return Files.readString(Path.of("../shared/DOC.md"));
+        } catch (IOException e) {
+            throw new UncheckedIOException(e);
+        }
+    }
+
+    private static String wordsOf(String text) {
+        return text.replaceAll("\\s+", " ");
     }
 
     /** A new object with a text on its shelf. */
@@ -39,6 +79,37 @@ final class Run {
     Run text(int want, String text) {
         feed(text);
         return due(want, "shelf", text.length());
+    }
+
+    /** A text without a fault, on a new object. */
+    static void fine(String text) {
+        new Run().fault(0, -1, text);
+    }
+
+    /** A text with a fault at a place, on a new object. */
+    static void faulty(int want, int place, String text) {
+        new Run().fault(want, place, text);
+    }
+
+    /** A text with a fault at its last byte, on a new object. */
+    static void faultyAtEnd(int want, String text) {
+        faulty(want, text.length() - 1, text);
+    }
+
+    /** Rising numbers from one to another (less 1), with a blank ahead of each. */
+    static String row(int from, int to) {
+        StringBuilder row = new StringBuilder();
+        for (int i = from; i < to; i++) {
+            row.append(' ').append(i);
+        }
+        return row.toString();
+    }
+
+    /** The same call on another run tells what is due. */
+    String sameAs(Run other, String call, Object... arguments) {
+        String want = other.answer(call, arguments);
+        compare(want, call, arguments);
+        return want;
     }
 
     /** A text with a fault at a place. */
@@ -70,14 +141,14 @@ final class Run {
         made++;
         String got = answer(call, arguments);
         if (!got.equals(want)) {
-            wrong++;
-            System.out.println(call + Arrays.toString(arguments) + " answered " + got + ", due is " + want);
+            tellWrong(call + Arrays.toString(arguments) + " answered " + got + ", due is " + want);
         }
         return this;
     }
 
     /** A call's answer as text: a number (of a boolean 1 or 0), or the name of the exception that it throws. */
     String answer(String call, Object... arguments) {
+        countCall();
         try {
             Method method = find(call, arguments.length);
             Object got = method.invoke(x, fitted(method, arguments));
@@ -89,6 +160,17 @@ final class Run {
             return e.getCause().getClass().getName();
         } catch (ReflectiveOperationException e) {
             throw new IllegalStateException(e);
+        }
+    }
+
+    private void countCall() {
+        calls++;
+        if (calls > MOST_CALLS && renewed) {
+            x = new TornLeaves();
+            calls = 1;
+        }
+        if (calls == MOST_CALLS + 1 && x instanceof TornLeaves) {
+            tellWrong("an object is used for more than " + MOST_CALLS + " calls");
         }
     }
 
@@ -118,14 +200,19 @@ final class Run {
     static void isTrue(String what, boolean holds) {
         made++;
         if (!holds) {
-            wrong++;
-            System.out.println("not so: " + what);
+            tellWrong("not so: " + what);
         }
+    }
+
+    private static void tellWrong(String what) {
+        wrong++;
+        System.out.println(sentence.isEmpty() ? what : what + " (" + sentence + ")");
     }
 
     /** Says how it went, with exit code 1 if anything was wrong. */
     static void end(String test) {
-        System.out.println(test + ": " + made + " answers, " + wrong + " not as due");
+        String about = sentences == 0 ? "" : " about " + sentences + " sentences";
+        System.out.println(test + ": " + made + " answers" + about + ", " + wrong + " not as due");
         if (wrong != 0) {
             System.exit(1);
         }

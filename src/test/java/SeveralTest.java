@@ -42,7 +42,7 @@ public final class SeveralTest {
             }
             // Of rows of as many leaves that is the first whose bits, read from leaf 0 on, are first set.
             ways.sort((a, b) -> Integer.compareUnsigned(Integer.reverse(b), Integer.reverse(a)));
-            Run run = new Run().due(ways.size(), "ways", s, k, leaves);
+            Run run = Run.free().due(ways.size(), "ways", s, k, leaves);
             for (int i = 0; i < ways.size(); i++) {
                 run.due(ways.get(i), "way", s, k, leaves, i);
             }
@@ -57,7 +57,7 @@ public final class SeveralTest {
                 fits.add(leaves);
             }
         }
-        Run run = new Run().due(fits.size(), "several", s, k, -1);
+        Run run = Run.free().due(fits.size(), "several", s, k, -1);
         for (int i = 0; i < fits.size(); i++) {
             run.due(fits.get(i), "several", s, k, i);
         }
@@ -91,7 +91,7 @@ public final class SeveralTest {
             }
         }
         // The last way of many: the greatest rows come last.
-        Run run = new Run();
+        Run run = Run.free();
         long s = 30 * 61 - 3 * 15 - 4 * 217;
         long many = ways30(15, 217);
         run.due(many, "ways", s, 15, 30).noSuch("way", s, 15, 30, many).noSuch("way", s, 15, 30, Long.MAX_VALUE);
@@ -117,7 +117,7 @@ public final class SeveralTest {
     }
 
     private static void compare(int leaves, long[][] ways) {
-        Run run = new Run();
+        Run run = Run.free();
         for (int k = 1; k <= 60; k += k < 5 ? 1 : 5) {
             for (int total = 0; total <= 1770; total += 13) {
                 long s = leaves * (2L * leaves + 1) - 3L * k - 4L * total;
@@ -135,7 +135,7 @@ public final class SeveralTest {
     }
 
     private static void greatSums() {
-        Run run = new Run().due(0, "ways", MOST, 1, 60).due(0, "ways", MOST, 60, 60).noSuch("way", MOST, 1, 30, 0);
+        Run run = Run.free().due(0, "ways", MOST, 1, 60).due(0, "ways", MOST, 60, 60).noSuch("way", MOST, 1, 30, 0);
         for (int k : new int[] {1, 2, 30, 59, 60}) {
             for (long s : new long[] {MOST, MOST - 1, MOST - 2, MOST - 3, 123456789012345678L}) {
                 int many = Integer.parseInt(run.answer("several", s, k, -1));
@@ -164,7 +164,7 @@ public final class SeveralTest {
     }
 
     private static void wrongInputs() {
-        Run run = new Run();
+        Run run = Run.free();
         for (long s : new long[] {0, -1, MOST + 1, Long.MAX_VALUE, Long.MIN_VALUE}) {
             run.illegal("several", s, 1, -1).illegal("several", s, 1, 9).illegal("ways", s, 1, 3).illegal("way", s, 1, 3, 0);
         }

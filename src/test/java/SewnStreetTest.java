@@ -25,7 +25,7 @@ public final class SewnStreetTest {
                 leavesBySum.put(left, leaves);
             }
         }
-        Run run = new Run();
+        Run run = Run.free();
         for (int s = 1; s <= 6000; s++) {
             run.due(leavesBySum.getOrDefault(s, -1), "sewn", s);
         }
@@ -42,7 +42,7 @@ public final class SewnStreetTest {
                 waysBySum.put(left, new int[] {houses, 2 * gone - 1 + side});
             }
         }
-        Run run = new Run();
+        Run run = Run.free();
         for (int s = 1; s <= 5000; s++) {
             int[] way = waysBySum.getOrDefault(s, new int[] {-1, -1});
             run.due(way[0], "street", s, side, false).due(way[1], "street", s, side, true);
@@ -50,7 +50,7 @@ public final class SewnStreetTest {
     }
 
     private static void great() {
-        Run run = new Run();
+        Run run = Run.free();
         long leaves = 707106780L;
         run.due(leaves, "sewn", (2 * leaves + 1) * (leaves - 2)).due(-1, "sewn", (2 * leaves + 1) * (leaves - 2) - 1);
         run.due(-1, "sewn", (2 * leaves + 3) * (leaves - 1)).due(-1, "sewn", MOST).due(-1, "sewn", 1);
@@ -61,7 +61,7 @@ public final class SewnStreetTest {
     }
 
     private static void wrongInputs() {
-        Run run = new Run();
+        Run run = Run.free();
         for (long s : new long[] {0, -1, MOST + 1, Long.MAX_VALUE, Long.MIN_VALUE}) {
             run.illegal("sewn", s).illegal("street", s, 0, true).illegal("street", s, 1, false);
             // The side comes ahead of the sum.

@@ -107,20 +107,12 @@ public final class ShelfTest {
         String eight = "plain 3;" + "copy 0;".repeat(8);
         new Run().fault(0, -1, eight).due(8, "count", 1).fault(2, eight.length(), eight + "copy 0;");
         new Run().fault(2, eight.length(), eight + "copy").due(0, "count", 1);
-        String sixty = "plain 99;gone 0" + row(0, 30) + ";gone 0" + row(30, 60);
+        String sixty = "plain 99;gone 0" + Run.row(0, 30) + ";gone 0" + Run.row(30, 60);
         new Run().fault(0, -1, sixty + ";").due(60, "book", 0, 2).fault(2, sixty.length() + 1, sixty + " 60;");
         String other = sixty + ";plain 2;gone 1 1;";
         new Run().fault(0, -1, other).fault(2, other.length() + 7, other + "gone 0 98;");
-        String thirty = "plain 99;copy 0" + row(0, 30);
-        new Run().fault(0, -1, thirty + ";copy 0" + row(0, 30) + ";").fault(2, thirty.length() + 1, thirty + " 30;");
-    }
-
-    private static String row(int from, int to) {
-        StringBuilder row = new StringBuilder();
-        for (int i = from; i < to; i++) {
-            row.append(' ').append(i);
-        }
-        return row.toString();
+        String thirty = "plain 99;copy 0" + Run.row(0, 30);
+        new Run().fault(0, -1, thirty + ";copy 0" + Run.row(0, 30) + ";").fault(2, thirty.length() + 1, thirty + " 30;");
     }
 
     private static void whatIsNotThere() {
@@ -159,9 +151,9 @@ public final class ShelfTest {
     }
 
     private static void leastOfOneToken() {
-        String sixty = "plain 99;gone 0" + row(0, 60);
+        String sixty = "plain 99;gone 0" + Run.row(0, 60);
         new Run().fault(2, sixty.length() + 1, sixty + " 99;").fault(2, sixty.length() + 1, sixty + " 0;");
-        String thirty = "plain 99;copy 0" + row(0, 30);
+        String thirty = "plain 99;copy 0" + Run.row(0, 30);
         new Run().fault(2, thirty.length() + 1, thirty + " 0;").fault(2, thirty.length() + 1, thirty + " 9999;");
         new Run().fault(2, 15, "plain 3;gone 0 99999;").fault(2, 13, "plain 3;gone 99999 1;");
         // The first along the text, however great another is.

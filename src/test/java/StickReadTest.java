@@ -48,15 +48,16 @@ public final class StickReadTest {
     }
 
     private static void reading() {
-        Run run = Run.of("plain 50;roman 3 4;odd 20;told 3 by page-2;gone 0 4 5;gone 2 0;");
-        run.due(0, "book", 1, 2).due(1, "stick", 0, 10);
+        String text = "plain 50;roman 3 4;odd 20;told 3 by page-2;gone 0 4 5;gone 2 0;";
         for (int each = 1; each <= 100; each += each < 10 ? 1 : 9) {
+            Run run = Run.of(text).due(1, "stick", 0, 10);
             for (int from = 1; from <= 100; from += 9) {
                 compare(run, from, Math.min(100, from + 37), each);
                 compare(run, from, from, each);
                 compare(run, from, 100, each);
             }
         }
+        Run run = Run.of(text).due(0, "book", 1, 2);
         run.due(15, "read", 1, 1, 8, 1, 0, false).due(5, "read", 1, 1, 8, 1, 0, true).due(0, "read", 1, 1, 3, 1, 0, true);
         run.due(2, "read", 1, 2, 5, 3, 0, false).due(5, "read", 2, 3, 3, 1, 0, false).due(0, "read", 2, 1, 2, 1, 0, true);
         run.due(10, "read", 3, 1, 6, 1, 0, false).due(4, "read", 3, 1, 6, 1, 0, true);

@@ -69,7 +69,10 @@ public final class TearTest {
         }
         run.due(360, "count", 2).due(6, "count", 6).due(0, "sum", 0).due(0, "sum", 4);
         for (int left = 359; left >= 0; left--) {
-            run.due(1, "put").due(left % 60, "book", left / 60, 2);
+            run.due(1, "put");
+            if (left % 4 == 0) {
+                run.due(left % 60, "book", left / 60, 2);
+            }
         }
         run.due(-1, "put").due(60 * 121, "sum", 0).due(122 * 122, "sum", 1).due(1999 * 3999, "sum", 5);
     }
