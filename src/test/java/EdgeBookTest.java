@@ -20,6 +20,8 @@ public final class EdgeBookTest {
         index();
         indexOfSewnBooks();
         indexOfNone();
+        indexOrNone();
+        mostCalls();
         Run.end("EdgeBookTest");
     }
 
@@ -207,6 +209,28 @@ public final class EdgeBookTest {
         run.due(2, "index", 0, 7).due(2, "index", 0, 8).due(4, "index", 0, 9).due(4, "index", 0, 12).due(6, "index", 0, 13);
         run.due(0, "index", 1, 4000).due(2, "index", 1, 4001).due(2, "index", 1, 4004).due(4, "index", 1, 4005);
         run.due((1 << 30) - 2000, "index", 1, MOST).due(-1, "index", 1, 0);
+    }
+
+    private static void indexOrNone() {
+        Run.about("AN INDEX; NONE: none.");
+        Run run = Run.of("roman 99 1;skip 9 1;told 1 by page-1;");
+        run.due((MOST + 99L + 1) / 2 - 1, "index", 0, MOST).due(49, "index", 0, 1).due(-1, "index", 0, 0);
+        run.due(-1, "index", 1, 2147483639).due(-1, "index", 1, 9).due(4, "index", 1, 10).due(0, "index", 1, 2);
+        run.due(0, "index", 2, 1).due(-1, "index", 2, 2).due(-1, "index", 2, 0);
+    }
+
+    private static void mostCalls() {
+        Run.about("An object is used for at most 512 calls after it has been made");
+        Run run = Run.of("plain 9;");
+        // Three calls have been made so far: one feed, one shelf, and this one's count.
+        run.due(0, "count", 2);
+        for (int call = 4; call <= 512; call++) {
+            if (call % 2 == 0) {
+                run.due(1, "tear", 0, call % 9);
+            } else {
+                run.due(1, "put");
+            }
+        }
     }
 
     private static void indexOfNone() {

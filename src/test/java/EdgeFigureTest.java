@@ -13,6 +13,7 @@ public final class EdgeFigureTest {
         shortOfNone();
         stands();
         which();
+        bothWays();
         skipWrong();
         whole();
         wholeNone();
@@ -98,6 +99,9 @@ public final class EdgeFigureTest {
         lead("1 3 1 1 1 1 1 1 1 1;").due(10, "far", 0).due(1, "lacks", 0);
         lead("9 9 9 9 9 9 9 9 9 0;").due(8, "far", 0).due(9, "lacks", 0);
         lead("0 9 9 9 9 9 9 9 9 9;").due(9, "far", 0).due(0, "lacks", 0).due(11, "far", 11).due(0, "lacks", 11);
+        // Of the next number, not of the one behind it: 9 and then 10, 19 and then 18.
+        lead("0 9 9 9 9 9 9 9 9 0;").due(8, "far", 0).due(9, "lacks", 0);
+        lead("9 9 9 9 9 9 9 9 0 0;").due(20, "far", 20).due(9, "lacks", 20);
         // Of two that are short the least: 10 lacks 0 and 1; 21 before 20 lacks 2 alone.
         lead("0 1 9 9 9 9 9 9 9 9;").due(9, "far", 0).due(0, "lacks", 0);
         lead("9 9 1 9 9 9 9 9 9 9;").due(21, "far", 21).due(2, "lacks", 21);
@@ -141,6 +145,19 @@ public final class EdgeFigureTest {
         run.due(205891132094648L, "skip", 9, 888888888888888L, true).due(-1, "skip", 9, 999999999999999L, true);
         run.due(205891132094648L, "skip", 1, 999999999999999L, true).illegal("skip", 9, MOST + 1, true);
         run.due(1, "skip", 2, 1, true).illegal("skip", 2, 0, true);
+    }
+
+    private static void bothWays() {
+        Run.about("STANDS (which false), WHICH (true; NONE: none).");
+        Run run = Run.free();
+        for (int f = 1; f <= 9; f++) {
+            for (long number : new long[] {f, 10 * f, 10 * f + 1, 100 + f, MOST - 100 + f, MOST / 10 * f}) {
+                run.due(-1, "skip", f, number, true);
+            }
+            for (long n : new long[] {1, 8, 9, 10, 80, 81, 82, 728, 729, 730, 205891132094648L, 205891132094640L}) {
+                run.due(inNines(n, f), "skip", f, n, false).due(n, "skip", f, inNines(n, f), true);
+            }
+        }
     }
 
     private static void skipWrong() {

@@ -7,6 +7,7 @@ public final class EdgeReadTest {
     public static void main(String[] args) {
         stickSides();
         stick();
+        stickToTheNext();
         stickRefused();
         stickNoLeaf();
         tornStaysStuck();
@@ -62,6 +63,17 @@ public final class EdgeReadTest {
         Run.about("STUCK (at most 20 of all BOOKS)");
         run.due(-1, "stick", 1, 0).due(1, "count", 8).due(20, "count", 9).due(19, "loosen").due(20, "stick", 1, 0);
         run.due(-1, "stick", 0, 19).due(2, "count", 8).due(19, "loosen").due(20, "stick", 0, 19).due(-1, "stick", 1, 0);
+    }
+
+    private static void stickToTheNext() {
+        Run.about("a LEAF of a BOOK to the next one (the LEAF behind it by number), both being there then, neither side being STUCK already");
+        // The next one by number, whether it is there or not: over a gap nothing sticks.
+        Run run = Run.of("plain 4;gone 0 1;").due(-1, "stick", 0, 0).due(-1, "stick", 0, 1).due(1, "stick", 0, 2);
+        run.due(-1, "stick", 0, 2).due(-1, "stick", 0, 3).due(4, "count", 8).due(1, "count", 9);
+        hidden(run, 0, 8, 3, 4, 6, 7);
+        // They are there when they are stuck, and may be torn since.
+        run.due(2, "tear", 0, 3).due(3, "tear", 0, 2).due(-1, "stick", 0, 2).due(1, "count", 9).due(1, "put").due(1, "put");
+        hidden(run, 0, 8, 3, 4, 6, 7);
     }
 
     private static void stickRefused() {

@@ -22,9 +22,11 @@ public final class EdgeSumTest {
         sewn();
         street();
         streetNone();
+        streetOneWay();
         noSide();
         said();
         tells();
+        tellsNone();
         fewFits();
         Run.end("EdgeSumTest");
     }
@@ -256,6 +258,19 @@ public final class EdgeSumTest {
         }
     }
 
+    private static void streetOneWay() {
+        Run.about("A HOUSE is gone from a side of a STREET (odd: 1, 3 ..; even: 2, 4 ..): how many houses there were, and which is gone");
+        for (int side = 0; side <= 1; side++) {
+            Run run = Run.free();
+            for (int houses = 2; houses <= 30; houses++) {
+                for (int gone = 1 + side; gone <= 2 * houses; gone += 2) {
+                    int left = houses * (houses + side) - gone;
+                    run.due(houses, "street", left, side, false).due(gone, "street", left, side, true);
+                }
+            }
+        }
+    }
+
     private static void noSide() {
         Run.about("NoSuchElementException (ahead): no such side.");
         Run run = Run.free();
@@ -287,6 +302,15 @@ public final class EdgeSumTest {
         run.due(4, "tells", 2835).due(5, "tells", 4545).due(6, "tells", 214765).due(7, "tells", 8113).due(9, "tells", 404447);
         // Two fits whose pages left bear the same figures; three of which two leave the same pages.
         run.due(-1, "tells", 10).due(-1, "tells", 36).due(-1, "tells", 1492113).due(-1, "tells", 3).due(-1, "tells", 21);
+    }
+
+    private static void tellsNone() {
+        Run.about("TELLS APART; NONE: none does.");
+        // Of three fits of an odd triangle's book two always leave the same pages.
+        Run run = Run.free();
+        for (long s : new long[] {3, 21, 55, 105, 171, 253, 10, 36, 78, 136, 2039167}) {
+            run.due(-1, "tells", s);
+        }
     }
 
     private static void fewFits() {

@@ -10,12 +10,14 @@ public final class EdgeTearTest {
         sheet();
         sheetRefused();
         noSheet();
+        leafOrSheet();
         put();
         putNone();
         sheetAtOnce();
         add();
         addRefused();
         addNoBook();
+        sixtySums();
         wrong();
         seed();
         seedDraws();
@@ -85,6 +87,13 @@ public final class EdgeTearTest {
         run.due(2, "sheet", 5, 999).due(3, "count", 6);
     }
 
+    private static void leafOrSheet() {
+        Run.about("LEAVES are TORN out (a LEAF, or a SHEET at once, if both its LEAVES are there)");
+        Run run = Run.of("even 4;").due(1, "tear", 0, 3).due(-1, "sheet", 0, 0).due(1, "isThere", 0, 0).due(3, "sheet", 0, 1);
+        run.due(4, "tear", 0, 0).due(-1, "sheet", 0, 0).due(-1, "sheet", 0, 1).due(0, "sum", 0).due(3, "count", 6);
+        run.due(1, "put").due(2, "put").due(1, "put").due(2, "sheet", 0, 0).due(4, "sheet", 0, 1).due(2, "count", 2);
+    }
+
     private static void put() {
         Run.about("What was TORN last is PUT back (what the TEXT told isn't): how many LEAVES.");
         Run run = Run.of("plain 4;plain 4;gone 0 0;gone 1 1;").due(2, "tear", 0, 1).due(2, "tear", 1, 0).due(3, "tear", 0, 2);
@@ -141,6 +150,15 @@ public final class EdgeTearTest {
         Run run = Run.of("plain 1;").due(1, "add", 0, 1).noSuch("add", 1, 1).noSuch("add", -1, 3).noSuch("add", MOST, 3);
         run.noSuch("add", LEAST, 3).due(0, "count", 7).due(1, "count", 3).due(1, "add", 0, 3).noSuch("add", 1, 6);
         run.due(0, "add", 0, 6).due(1, "count", 7).due(-1, "wrong");
+    }
+
+    private static void sixtySums() {
+        Run.about("one after another (at most 60): the first wrong one");
+        Run run = Run.of("told 31 by 1;");
+        for (int page = 1; page <= 59; page++) {
+            run.due(page == 58 ? 0 : 1, "add", 0, page == 58 ? 57 : page);
+        }
+        run.due(0, "add", 0, 59).due(60, "count", 3).due(0, "add", 0, 61).due(60, "count", 3).due(1, "count", 7).due(57, "wrong");
     }
 
     private static void wrong() {

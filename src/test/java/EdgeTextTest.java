@@ -17,6 +17,7 @@ public final class EdgeTextTest {
         copies();
         lead();
         longestText();
+        longTextsAnew();
         words();
         numbers();
         signs();
@@ -178,6 +179,16 @@ public final class EdgeTextTest {
         String rule = "told 1 by 1" + "+1".repeat(244);
         Run.of(rule + ";").due(245, "number", 0, 2);
         Run.faulty(1, 500, rule + "+");
+    }
+
+    private static void longTextsAnew() {
+        Run.about("The tape's first n bytes (it is empty then) are a SHELF, all anew");
+        // However many rules were told before, a text of 500 bytes finds room.
+        Run run = new Run();
+        for (int more = 0; more < 8; more++) {
+            run.text(0, "told 1 by page" + "+1".repeat(230 + more) + ";").due(232 + more, "number", 0, 2);
+            run.text(3, "told 1 by page" + "+1".repeat(235) + "+pages").due(231 + more, "number", 0, 1);
+        }
     }
 
     private static void words() {
