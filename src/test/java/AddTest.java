@@ -1,6 +1,8 @@
 /** Promises 15 and 16: a child's sums. */
 public final class AddTest {
     public static void main(String[] args) {
+        Run.about("ADDED: a child tells sums of the first 1, 2 .. PAGES of a BOOK (of what was printed, whatever is GONE), one after another "
+                + "(at most 60): the first wrong one.");
         Run run = Run.of("roman 2 40;even 1;gone 0 2;told 2 by page-2;");
         run.due(-1, "wrong").noSuch("add", 3, 0).noSuch("add", -1, 0).noSuch("add", Integer.MAX_VALUE, 0);
         // Whatever is gone, what was printed counts; the first two pages bear none.

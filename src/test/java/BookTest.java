@@ -4,9 +4,18 @@ public final class BookTest {
         "told %d by (page/3+1)*(not (page=5));"};
 
     public static void main(String[] args) {
+        Run.about("`long sum(int book) throws NoSuchElementException`: THE SUM.");
         for (int kind = 0; kind < KINDS.length; kind++) {
             for (int leaves = 2; leaves <= 40; leaves += 6) {
                 against(kind, leaves);
+            }
+        }
+        Run.about("AN INDEX names a NUMBER in a BOOK: how many LEAVES more it must have had, at least, to have a PAGE that bears it "
+                + "(0: it has; a sewn one's LEAVES being even then, too); none, if no PAGE of such a BOOK ever bears it "
+                + "(of a told one: no PAGE of its own).");
+        for (int kind = 0; kind < KINDS.length; kind++) {
+            for (int leaves = 2; leaves <= 40; leaves += 6) {
+                named(kind, leaves);
             }
         }
         greatBooks();
@@ -55,14 +64,19 @@ public final class BookTest {
             run.due(figures[figure], "figures", 0, figure);
         }
         for (int number = 1; number <= 130; number++) {
-            int place = pageOf(kind, number, 2 * leaves);
-            run.due(place, "page", 0, number);
-            int ever = kind == 6 ? place : pageOf(kind, number, 400);
+            run.due(pageOf(kind, number, 2 * leaves), "page", 0, number);
+        }
+        run.due(-1, "page", 0, 0).due(-1, "page", 0, -1).due(-1, "page", 0, Integer.MIN_VALUE);
+    }
+
+    private static void named(int kind, int leaves) {
+        Run run = Run.of(String.format(KINDS[kind], leaves) + "gone 0 1 0;");
+        for (int number = 1; number <= 130; number++) {
+            int ever = pageOf(kind, number, kind == 6 ? 2 * leaves : 400);
             int needed = (ever + 1) / 2;
             needed += kind == 1 ? needed % 2 : 0;
             run.due(ever < 0 ? -1 : Math.max(0, needed - leaves), "index", 0, number);
         }
-        run.due(-1, "page", 0, 0).due(-1, "page", 0, -1).due(-1, "page", 0, Integer.MIN_VALUE);
         run.due(-1, "index", 0, 0).due(-1, "index", 0, -7).due(-1, "index", 0, Integer.MIN_VALUE);
     }
 

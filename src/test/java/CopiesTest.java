@@ -4,6 +4,9 @@ import java.util.Random;
 public final class CopiesTest {
     public static void main(String[] args) {
         named();
+        Run.about("MADE WHOLE: of COPIES of a BOOK (and that BOOK itself, its LEAVES that are GONE missing) the fewest by which all LEAVES "
+                + "are there, the BOOK itself always being one of them; of as few the least as bits of COPIES; none, if it can't be. "
+                + "BOUGHT: LEAVES that none of all these has.");
         Random random = new Random(5);
         for (int round = 0; round < 300; round++) {
             drawn(random);

@@ -270,7 +270,7 @@ public final class EdgeTearTest {
     }
 
     private static void status() {
-        Run.about("how many calls were refused: 0 TEXTS with a FAULT, 1 LEAVES and SHEETS that can't be TORN, 2 sums that are ADDED");
+        Run.about("STATUS: how many calls were refused: 0 TEXTS with a FAULT, 1 LEAVES and SHEETS that can't be TORN, 2 sums that are ADDED");
         Run run = Run.of("plain 3;sewn 2;gone 0 0;").text(1, "x").text(2, "plain 0;").illegal("shelf", 1).due(2, "count", 5);
         run.due(-1, "tear", 0, 0).due(-1, "sheet", 0, 0).due(-1, "seed", 0, 1, 3).noSuch("tear", 0, 3).noSuch("sheet", 1, 1);
         run.illegal("seed", 0, 1, 61).due(-1, "put").due(3, "count", 6).due(0, "add", 0, 5).due(0, "count", 7).due(0, "add", 1, 1);

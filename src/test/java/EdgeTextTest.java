@@ -22,11 +22,14 @@ public final class EdgeTextTest {
         numbers();
         signs();
         blanks();
+        notation();
         lines();
         linesOfBooks();
         linesOfLeaves();
         linesOfLead();
+        capitals();
         grammarOfRules();
+        perhaps();
         arithmetic();
         tests();
         values();
@@ -78,7 +81,18 @@ public final class EdgeTextTest {
     }
 
     private static void pagesOfLeaves() {
-        Run.about("LEAF i has the PAGES 2 i + 1 and 2 i + 2 (PAGES are counted from 1 on)");
+        Run.about("of 2 PAGES each: LEAF i has the PAGES 2 i + 1 and 2 i + 2 (PAGES are counted from 1 on)");
+        for (String kind : KINDS) {
+            Run each = Run.of(kind + (kind.startsWith("told") ? "4 by 9;" : "4;"));
+            each.noSuch("number", 0, 0).noSuch("number", 0, 9).noSuch("number", 0, -1);
+            for (int leaf = 0; leaf < 4; leaf++) {
+                long left = Long.parseLong(each.answer("sum", 0));
+                long front = Long.parseLong(each.answer("number", 0, 2 * leaf + 1));
+                long back = Long.parseLong(each.answer("number", 0, 2 * leaf + 2));
+                each.due(leaf + 1, "tear", 0, leaf).due(left - front - back, "sum", 0);
+            }
+            each.due(0, "sum", 0);
+        }
         Run run = Run.of("plain 3;plain 2000;gone 0 0;gone 1 1999;");
         run.noSuch("number", 0, 0).due(1, "number", 0, 1).due(6, "number", 0, 6).noSuch("number", 0, 7);
         run.noSuch("number", 1, 0).due(4000, "number", 1, 4000).noSuch("number", 1, 4001);
@@ -192,7 +206,7 @@ public final class EdgeTextTest {
     }
 
     private static void words() {
-        Run.about("words (a .. z, the longest row)");
+        Run.about("TOKENS: words (a .. z, the longest row)");
         Run.faulty(1, 0, "plainplain 3;");
         Run.faulty(1, 0, "plai 3;");
         Run.faulty(1, 0, "plains 3;");
@@ -259,6 +273,27 @@ public final class EdgeTextTest {
         }
     }
 
+    private static void notation() {
+        Run.about("In quotes is what stands there, [ ] perhaps, * any number of times, | one of some.");
+        // What stands there has each of its letters, and no other.
+        for (String word : new String[] {"plain", "sewn", "roman", "odd", "even", "skip", "told", "gone", "copy", "lead"}) {
+            for (int i = 0; i < word.length(); i++) {
+                Run.faulty(1, 8, "plain 3;" + word.substring(0, i) + word.substring(i + 1) + " 2 2;");
+                Run.faulty(1, 8, "plain 3;" + word.substring(0, i) + (char) (word.charAt(i) ^ 3) + word.substring(i + 1) + " 2 2;");
+                Run.faulty(1, 8, "plain 3;" + word.substring(0, i) + (char) (word.charAt(i) - 32) + word.substring(i + 1) + " 2 2;");
+            }
+            Run.faulty(1, 8, "plain 3;" + word + word.charAt(word.length() - 1) + " 2 2;");
+        }
+        // One of some, and not two of them; any number of times, and never, too.
+        Run.faulty(1, 6, "plain odd 3;");
+        Run.faulty(1, 5, "gone copy 0 1;");
+        for (int many = 0; many <= 20; many++) {
+            Run.of("plain 31;gone 0 30" + Run.row(0, many) + ";copy 0" + Run.row(0, many) + ";").due(many + 1, "book", 0, 2);
+            rule("0" + "+1".repeat(many) + "*1".repeat(many), many);
+            rule("0" + " or 0".repeat(many) + " or 1 and 1" + " and 1".repeat(many), 1);
+        }
+    }
+
     private static void lines() {
         Run.about("SHELF: LINE*");
         Run.fine("");
@@ -273,7 +308,7 @@ public final class EdgeTextTest {
     }
 
     private static void linesOfBooks() {
-        Run.about("(('plain' | 'sewn' | 'roman' NUMBER | 'odd' | 'even' | 'skip' NUMBER) LEAVES | 'told' LEAVES 'by' EXPR");
+        Run.about("LINE: (('plain' | 'sewn' | 'roman' NUMBER | 'odd' | 'even' | 'skip' NUMBER) LEAVES | 'told' LEAVES 'by' EXPR");
         for (String kind : new String[] {"plain", "sewn", "odd", "even", "told"}) {
             Run.faulty(1, kind.length(), kind + ";");
             Run.faulty(1, kind.length() + 1, kind + " page;");
@@ -314,6 +349,31 @@ public final class EdgeTextTest {
         Run.of("lead 0 1 2 3 4 5 6 7 8 9;").due(0, "count", 10).due(8, "count", 18).due(9, "count", 19);
         Run.faulty(1, 25, "lead 0 1 2 3 4 5 6 7 8 9 0;");
         Run.faulty(1, 24, "lead 0 1 2 3 4 5 6 7 8 9");
+    }
+
+    private static void capitals() {
+        Run.about("all in capitals but EXPR being NUMBERS.");
+        String[] ahead = {"plain ", "sewn ", "roman ", "roman 3 ", "odd ", "even ", "skip ", "skip 3 ", "told ", "plain 3;gone ",
+            "plain 3;gone 0 ", "plain 3;copy ", "lead ", "lead 1 2 3 4 5 6 7 8 9 "};
+        for (String text : ahead) {
+            for (String no : new String[] {"page", "leaves", "side", "(2)", "-2", "+2", "not 2", "two", "<2"}) {
+                Run.faulty(1, text.length(), text + no + ";");
+            }
+        }
+        Run.fine("plain 2;sewn 2;roman 2 2;odd 2;even 2;skip 2 2;gone 0 1;copy 1 1;lead 1 2 3 4 5 6 7 8 9 0;");
+        // An EXPR may be more than a NUMBER.
+        Run.of("told 2 by (page)+leaf;").due(4, "number", 0, 3).due(5, "number", 0, 4);
+    }
+
+    private static void perhaps() {
+        Run.about("PART: NUMBER | VALUE | '(' EXPR ')'; [ ] is perhaps.");
+        rule("4", 4);
+        rule("4<5", 1);
+        rule("4=5", 0);
+        rule("(4)", 4);
+        rule("(4<5)=(5=5)", 1);
+        Run.faulty(1, 13, "told 1 by 4<5=6;");
+        Run.faulty(1, 12, "told 1 by 4<;");
     }
 
     private static void grammarOfRules() {
@@ -386,7 +446,7 @@ public final class EdgeTextTest {
     }
 
     private static void values() {
-        Run.about("'page', 'leaf', 'side' (0 of an odd PAGE, 1 of an even one), 'leaves' (how many the BOOK has)");
+        Run.about("VALUES: 'page', 'leaf', 'side' (0 of an odd PAGE, 1 of an even one), 'leaves' (how many the BOOK has)");
         Run run = Run.of("told 2000 by page;told 2000 by leaf+1;told 2000 by side+1;told 2000 by leaves;told 1 by leaves+leaf;");
         run.due(1, "number", 0, 1).due(4000, "number", 0, 4000);
         run.due(1, "number", 1, 1).due(1, "number", 1, 2).due(2, "number", 1, 3).due(2000, "number", 1, 3999);

@@ -1,7 +1,6 @@
 import java.util.ArrayList;
 import java.util.HashSet;
 import java.util.List;
-import java.util.Set;
 
 /** Promises 17, 18, 23 and 24: one leaf is out of a plain book, what is said more, and which saying tells. */
 public final class FitsTest {
@@ -10,9 +9,22 @@ public final class FitsTest {
 
     public static void main(String[] args) {
         List<List<long[]>> all = bruteFits();
+        Run.about("ONE LEAF is out of a plain BOOK of any number of PAGES (of an odd one the last LEAF has one PAGE), and what is left "
+                + "adds up to S (1 to 10 to the power of 18): FITS are all numbers of PAGES, with the LEAF that is out, by which it is so, "
+                + "by rising numbers of PAGES, of like ones by LEAVES.");
         for (int s = 1; s < all.size(); s++) {
-            against(s, all.get(s));
+            fits(s, all.get(s));
         }
+        Run.about("SAID more of ONE LEAF: how many FIGURES f are printed on what is left: how many FITS are so.");
+        for (int s = 1; s < all.size(); s++) {
+            said(s, all.get(s));
+        }
+        Run.about("TELLS APART: the least saying by which all FITS are unlike: 0 to 9 such a figure, 10 all FIGURES, 11 how many LEAVES "
+                + "there were; none, if none does (with fewer than two FITS 0 does).");
+        for (int s = 1; s < all.size(); s++) {
+            tells(s, all.get(s));
+        }
+        Run.about("FITS are all numbers of PAGES, with the LEAF that is out, by which it is so");
         for (long n = 4; n < 1400000000L; n = n * 3 + n % 7) {
             greatBook(n, 0);
             greatBook(n, n / 4);
@@ -55,28 +67,40 @@ public final class FitsTest {
         return many;
     }
 
-    private static void against(int s, List<long[]> fits) {
+    private static void fits(int s, List<long[]> fits) {
         Run run = Run.free().due(fits.size(), "fits", s, -1);
         for (int i = 0; i < fits.size(); i++) {
             run.due(fits.get(i)[0], "fits", s, i).due(fits.get(i)[1], "leaf", s, i);
         }
         run.noSuch("fits", s, fits.size()).noSuch("leaf", s, fits.size()).noSuch("leaf", s, -1);
-        int tells = -1;
-        for (int what = 11; what >= 0; what--) {
-            List<Long> said = new ArrayList<>();
-            for (long[] fit : fits) {
-                said.add(saying(fit, what));
-            }
-            Set<Long> unlike = new HashSet<>(said);
-            tells = unlike.size() == fits.size() ? what : tells;
-            for (long many : unlike) {
+    }
+
+    private static List<Long> sayings(List<long[]> fits, int what) {
+        List<Long> said = new ArrayList<>();
+        for (long[] fit : fits) {
+            said.add(saying(fit, what));
+        }
+        return said;
+    }
+
+    private static void said(int s, List<long[]> fits) {
+        Run run = Run.free();
+        for (int figure = 0; figure <= 10; figure++) {
+            List<Long> said = sayings(fits, figure);
+            for (long many : new HashSet<>(said)) {
                 long alike = said.stream().filter(other -> other == many).count();
-                if (what <= 10) {
-                    run.due(alike, "said", s, what, many).due(0, "said", s, what, many + 1000);
-                }
+                run.due(alike, "said", s, figure, many).due(0, "said", s, figure, many + 1000);
             }
         }
-        run.due(tells, "tells", s).due(0, "said", s, 3, -1).due(0, "said", s, 10, Long.MAX_VALUE);
+        run.due(0, "said", s, 3, -1).due(0, "said", s, 10, Long.MAX_VALUE);
+    }
+
+    private static void tells(int s, List<long[]> fits) {
+        int tells = -1;
+        for (int what = 11; what >= 0; what--) {
+            tells = new HashSet<>(sayings(fits, what)).size() == fits.size() ? what : tells;
+        }
+        Run.free().due(tells, "tells", s);
     }
 
     /** A sum that one fit makes has it, and all its fits make that sum. */
@@ -104,6 +128,7 @@ public final class FitsTest {
     }
 
     private static void wrongInputs() {
+        Run.about("NoSuchElementException (behind IllegalArgumentException): no such figure.");
         Run run = Run.free();
         for (long s : new long[] {0, -1, MOST + 1, Long.MAX_VALUE, Long.MIN_VALUE}) {
             run.illegal("fits", s, -1).illegal("fits", s, 99).illegal("leaf", s, 0).illegal("leaf", s, -5);

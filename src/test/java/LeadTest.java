@@ -18,6 +18,7 @@ public final class LeadTest {
     }
 
     private static void lead(int[] lead) {
+        Run.about("SHORT of which figure one is then: the least one of which there isn't enough left for the next number; none, if BACK is 1.");
         StringBuilder text = new StringBuilder("lead");
         for (int many : lead) {
             text.append(' ').append(many);

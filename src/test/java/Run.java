@@ -1,19 +1,16 @@
-import java.io.IOException;
-import java.io.UncheckedIOException;
 import java.lang.reflect.InvocationTargetException;
 import java.lang.reflect.Method;
-import java.nio.file.Files;
-import java.nio.file.Path;
 import java.util.Arrays;
+import java.util.HashSet;
 import java.util.NoSuchElementException;
+import java.util.Set;
 
 /** A run of calls on a new object, each with the answer that is due; calls are made by name, so that each can be printed. */
 final class Run {
     // What an object answers to later calls is free, so no test leans on it.
     private static final int MOST_CALLS = 512;
-    private static final String DOCUMENT = wordsOf(readDocument());
     private static String sentence = "";
-    private static int sentences = 0;
+    private static final Set<String> SENTENCES = new HashSet<>();
     private static int wrong = 0;
     private static int made = 0;
 
@@ -42,20 +39,8 @@ final class Run {
     /** What follows is about a sentence of the document, told in the document's own words. */
     static void about(String told) {
         sentence = told;
-        sentences++;
-        isTrue("the document says so", DOCUMENT.contains(wordsOf(told)));
-    }
-
-    private static String readDocument() {
-        try {
-            return Files.readString(Path.of("../shared/DOC.md"));
-        } catch (IOException e) {
-            throw new UncheckedIOException(e);
-        }
-    }
-
-    private static String wordsOf(String text) {
-        return text.replaceAll("\\s+", " ");
+        SENTENCES.add(told);
+        isTrue("the document says so", Document.words().contains(Document.wordsOf(told)));
     }
 
     /** A new object with a text on its shelf. */
@@ -211,7 +196,7 @@ final class Run {
 
     /** Says how it went, with exit code 1 if anything was wrong. */
     static void end(String test) {
-        String about = sentences == 0 ? "" : " about " + sentences + " sentences";
+        String about = SENTENCES.isEmpty() ? "" : " about " + SENTENCES.size() + " sentences";
         System.out.println(test + ": " + made + " answers" + about + ", " + wrong + " not as due");
         if (wrong != 0) {
             System.exit(1);

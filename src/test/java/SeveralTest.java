@@ -7,11 +7,14 @@ public final class SeveralTest {
     private static final int MOST_LEAVES = 12;
 
     public static void main(String[] args) {
+        Run.about("A WAY of k LEAVES out of a BOOK of so many (1 to 30), as in 3: all WAYS as rows of rising LEAVES, the first row first.");
         for (int leaves = 1; leaves <= MOST_LEAVES; leaves++) {
             for (int k = 1; k <= leaves + 1; k++) {
                 waysOf(leaves, k);
             }
         }
+        Run.about("SEVERAL: k LEAVES (1 to 60) of two PAGES each are out: which numbers of LEAVES fit (k or more), rising; "
+                + "for one of no more than 60 LEAVES in how many ways.");
         for (int k = 1; k <= 7; k++) {
             for (int s = 1; s <= 400; s++) {
                 numbersOf(s, k);

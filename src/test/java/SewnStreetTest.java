@@ -15,6 +15,7 @@ public final class SewnStreetTest {
     }
 
     private static void sewn() {
+        Run.about("A SHEET is out of a sewn BOOK: the number of LEAVES that fits (there is one at most).");
         Map<Integer, Integer> leavesBySum = new HashMap<>();
         for (int leaves = 2; leaves <= 60; leaves += 2) {
             for (int sheet = 0; sheet < leaves / 2; sheet++) {
@@ -22,7 +23,8 @@ public final class SewnStreetTest {
                 for (int leaf = 0; leaf < leaves; leaf++) {
                     left += leaf == sheet || leaf == leaves - 1 - sheet ? 0 : 4 * leaf + 3;
                 }
-                leavesBySum.put(left, leaves);
+                Integer other = leavesBySum.put(left, leaves);
+                Run.isTrue("there is one at most for " + left, other == null || other == leaves);
             }
         }
         Run run = Run.free();
@@ -32,6 +34,8 @@ public final class SewnStreetTest {
     }
 
     private static void street(int side) {
+        Run.about("A HOUSE is gone from a side of a STREET (odd: 1, 3 ..; even: 2, 4 ..): how many houses there were, and which is gone "
+                + "(there is one way at most).");
         Map<Integer, int[]> waysBySum = new HashMap<>();
         for (int houses = 1; houses <= 80; houses++) {
             for (int gone = 1; gone <= houses; gone++) {
@@ -39,7 +43,8 @@ public final class SewnStreetTest {
                 for (int house = 1; house <= houses; house++) {
                     left += house == gone ? 0 : 2 * house - 1 + side;
                 }
-                waysBySum.put(left, new int[] {houses, 2 * gone - 1 + side});
+                int[] other = waysBySum.put(left, new int[] {houses, 2 * gone - 1 + side});
+                Run.isTrue("there is one way at most for " + left, other == null || left == 0);
             }
         }
         Run run = Run.free();

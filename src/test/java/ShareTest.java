@@ -108,6 +108,8 @@ public final class ShareTest {
 
     /** All rows of children, the first first. */
     private static void compareShares(Run run, List<Integer> worth, int children) {
+        Run.about("SHARED among 2 to 4 CHILDREN are all LEAVES of a BOOK that are there (at most 10, else SPENT): so that the greatest sum "
+                + "of NUMBERS that one has, less the least, is least; of like ways the first as a row of CHILDREN by LEAVES.");
         List<Integer> there = worth.stream().filter(one -> one != null).toList();
         int rows = 1;
         for (int i = 0; i < there.size(); i++) {
@@ -139,6 +141,8 @@ public final class ShareTest {
     }
 
     private static void compareLeast(Run run, List<Integer> worth, int out, int s) {
+        Run.about("LEAST TORN: the fewest LEAVES (at most 4) to be TORN out of a BOOK, of those there (at most 30, else SPENT), "
+                + "so that THE SUM is S; of as few the first as a row of rising LEAVES; none, if none do.");
         List<Integer> best = null;
         for (int set = 0; set < 1 << worth.size(); set++) {
             List<Integer> row = rowOf(worth, set);

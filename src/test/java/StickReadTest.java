@@ -11,6 +11,7 @@ public final class StickReadTest {
     }
 
     private static void sticking() {
+        Run.about("They are LOOSENED, the last one first.");
         Run run = Run.of("plain 5;plain 1;plain 5;gone 0 3;").due(-1, "loosen");
         run.due(1, "stick", 0, 0).due(2, "stick", 0, 1).due(-1, "stick", 0, 0).due(-1, "stick", 0, 1).due(2, "count", 8);
         // The leaf behind is gone, the leaf is gone, it is the last leaf.
@@ -48,6 +49,8 @@ public final class StickReadTest {
     }
 
     private static void reading() {
+        Run.about("READ ALOUD: from a PAGE on each so manieth (1 to 100) up to another PAGE, those that are not on a LEAF that is GONE, "
+                + "and can be seen, and bear a NUMBER");
         String text = "plain 50;roman 3 4;odd 20;told 3 by page-2;gone 0 4 5;gone 2 0;";
         for (int each = 1; each <= 100; each += each < 10 ? 1 : 9) {
             Run run = Run.of(text).due(1, "stick", 0, 10);
@@ -76,6 +79,8 @@ public final class StickReadTest {
     }
 
     private static void buzzing() {
+        Run.about("unless it is a BUZZ (of a BUZZ number 2 to 9: it divides it, or is written in it as a figure; with 0 none is): "
+                + "their NUMBERS together, and how many.");
         Run run = Run.of("plain 200;even 100;");
         for (int buzz = 2; buzz <= 9; buzz++) {
             int plain = 0;

@@ -78,6 +78,8 @@ public final class TearTest {
     }
 
     private static void seeds() {
+        Run.about("BY A SEED k LEAVES are TORN out of a BOOK, one by one: of all that are there the one by a DRAW of how many these are, "
+                + "the first first");
         Run run = Run.of("plain 100;gone 0 0 50 99;");
         boolean[] gone = new boolean[100];
         gone[0] = true;
